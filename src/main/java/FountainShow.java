@@ -177,7 +177,8 @@ public final class FountainShow {
     }
 
     public double meanHeight() {
-        return (double) show.nozzles.sumOfHeights() / show.nozzles.count;
+        int count = show.nozzles.count;
+        return count < 1 ? 0 : (double) show.nozzles.sumOfHeights() / count;
     }
 
     public int state(int what) {

@@ -288,6 +288,18 @@ public final class TimeTest {
         x.nozzle(0, FountainShow.DRIFT, 7);
         x.tick(1);
         CHECK.due("drift rounded down", x.spray(0, 10), 104);
+        x.nozzle(0, FountainShow.HEIGHT, 4987);
+        x.command(1, 920);
+        x.tick(1);
+        // 4220.9968
+        CHECK.due("height rounded down", x.spray(0, 9), 4220);
+        x.nozzle(0, FountainShow.HEIGHT, 4999);
+        x.nozzle(0, FountainShow.DRIFT, 97);
+        x.wind(53);
+        x.command(1, 1000);
+        x.tick(1);
+        // 256.99859
+        CHECK.due("drift just below the next", x.spray(0, 10), 256);
     }
 
     private static void filter() {
@@ -328,6 +340,26 @@ public final class TimeTest {
         y.set(FountainShow.FILTER, 1);
         y.tick(1);
         CHECK.due("unfiltered", y.state(4), 1);
+        y.set(FountainShow.FILTER, 4);
+        y.wind(300);
+        y.tick(300);
+        CHECK.due("F = 307197", y.state(4), 299);
+        filterFromZero("new", new FountainShow());
+        y.rewind();
+        filterFromZero("rewound", y);
+    }
+
+    /** The last bit of F decides: from F = 1 the measured wind would be 109 after 18 ticks, from F = -1 0 after one. */
+    private static void filterFromZero(String when, FountainShow x) {
+        x.set(FountainShow.FILTER, 5);
+        x.wind(111);
+        x.tick(18);
+        CHECK.due(when + ": from 0, not above", x.state(4), 108);
+        x.rewind();
+        x.set(FountainShow.FILTER, 2);
+        x.wind(2);
+        x.tick(1);
+        CHECK.due(when + ": from 0, not below", x.state(4), 1);
     }
 
     private static void blow(String what, FountainShow x, int wind, int stage, int calm) {

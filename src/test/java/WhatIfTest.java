@@ -8,12 +8,14 @@ public final class WhatIfTest {
         ahead();
         aheadOfPumps();
         aheadSeesThePast();
+        aheadOfAll();
         delayErrors();
         delay();
         delayOrder();
         delayEnd();
         safeCutErrors();
         safeCut();
+        safeCutOfNothing();
         safeCutIsNotMonotone();
         safeCutSkips();
         CHECK.end();
@@ -233,6 +235,44 @@ public final class WhatIfTest {
         z.command(1, 1000);
         // drift = height * 14 / 100 > 0 from the height 8 on, v = 40
         CHECK.due("a small CUT", z.safeCut(100), 39);
+        z.nozzle(0, FountainShow.SPEED, 961);
+        z.tick(1);
+        CHECK.due("is closed for the tick behind", z.safeCut(100), 39);
+        z.set(FountainShow.CUT, 1000);
+        z.tick(1);
+        CHECK.due("just closes to 39", z.safeCut(1), 39);
+        z.nozzle(0, FountainShow.SPEED, 960);
+        CHECK.due("does not close to 39", z.safeCut(1), -6);
+    }
+
+    /** The stage 1 ends in the second tick; the nozzle opens from the CUT by its speed, and 999 is the most. */
+    private static void safeCutOfNothing() {
+        FountainShow x = quick(1);
+        x.set(FountainShow.FILTER, 1);
+        x.set(FountainShow.HOLD, 2);
+        x.nozzle(0, FountainShow.HEIGHT, 5000);
+        x.nozzle(0, FountainShow.DRIFT, 100);
+        x.nozzle(0, FountainShow.SPEED, 999);
+        x.set(FountainShow.SPLASH, 299);
+        x.wind(80);
+        x.tick(1);
+        x.wind(60);
+        x.command(1, 1000);
+        CHECK.due("not in the first tick", x.safeCut(1), 1000);
+        CHECK.due("nothing is safe", x.safeCut(2), 0);
+        CHECK.due("not for long", x.safeCut(3), -6);
+        x.nozzle(0, FountainShow.SPEED, 998);
+        CHECK.due("1 is safe", x.safeCut(2), 1);
+        x.nozzle(0, FountainShow.SPEED, 1000);
+        CHECK.due("nothing is not safe", x.safeCut(2), -6);
+    }
+
+    /** The height of the last of twelve nozzles. */
+    private static void aheadOfAll() {
+        FountainShow x = quick(12);
+        x.cue(1, 2048, 1000);
+        CHECK.due("the last nozzle", x.ahead(2, 0, 4), 1000);
+        CHECK.due("its demand", x.ahead(2, 0, 0), 10000);
     }
 
     /** Two nozzles share a pump: a lesser CUT for the one leaves more for the other one, which is not cut by it. */
