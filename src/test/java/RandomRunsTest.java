@@ -2,8 +2,9 @@ import java.util.Random;
 
 /** Runs of calls drawn by a fixed seed: each answer must be that of the model. */
 public final class RandomRunsTest {
-    private static final int RUNS = 400;
-    private static final int CALLS = 512;
+    private static final int RUNS = 2000;
+    /** An object is used for at most 512 calls; one step makes at most some forty of them. */
+    private static final int CALLS = 470;
     private static final int[] NOZZLE_MOST = {100, 5000, 50, 1000, 2, 100};
     private static final int[] PUMP_MOST = {2000, 500};
     private static final int[] SHOW_MOST = {64, 300, 300, 1000, 600, 5000};
@@ -16,6 +17,7 @@ public final class RandomRunsTest {
     private final int wild;
     private final FountainShow real = new FountainShow();
     private final Model model = new Model();
+    private int calls = 0;
 
     private RandomRunsTest(int seed) {
         random = new Random(seed);
@@ -33,9 +35,19 @@ public final class RandomRunsTest {
     }
 
     private void go() {
-        for (int i = 0; i < CALLS && !CHECK.failed(); i++) {
-            call(random.nextInt(100), run + "call " + i + " ");
+        for (int i = 0; calls < CALLS && !CHECK.failed(); i++) {
+            step(random.nextInt(100), run + "step " + i + " ");
         }
+    }
+
+    private void due(String what, double got, double want) {
+        calls++;
+        CHECK.due(what, got, want);
+    }
+
+    private int state(int what) {
+        calls++;
+        return real.state(what);
     }
 
     private int upTo(int most) {
@@ -53,7 +65,7 @@ public final class RandomRunsTest {
     }
 
     private int soon() {
-        return random.nextInt(15) == 0 ? upTo(100000) : real.state(0) + from(0, 40);
+        return random.nextInt(15) == 0 ? upTo(100000) : state(0) + from(0, 40);
     }
 
     private int ofNozzle(int setting) {
@@ -73,7 +85,7 @@ public final class RandomRunsTest {
         }
     }
 
-    private void call(int kind, String at) {
+    private void step(int kind, String at) {
         if (kind < 45) {
             change(kind, at);
         } else if (kind < 60) {
@@ -93,42 +105,42 @@ public final class RandomRunsTest {
         int c;
         if (kind < 1) {
             a = from(1, 12);
-            CHECK.due(at + "setUp " + a, real.setUp(a), model.setUp(a));
+            due(at + "setUp " + a, real.setUp(a), model.setUp(a));
         } else if (kind < 12) {
-            a = upTo(random.nextBoolean() ? 3 : real.state(1));
+            a = upTo(random.nextBoolean() ? 3 : state(1));
             b = upTo(5);
             c = ofNozzle(b);
-            CHECK.due(at + "nozzle " + a + " " + b + " " + c, real.nozzle(a, b, c), model.nozzle(a, b, c));
+            due(at + "nozzle " + a + " " + b + " " + c, real.nozzle(a, b, c), model.nozzle(a, b, c));
         } else if (kind < 17) {
             a = upTo(2);
             b = upTo(1);
             c = random.nextInt(4) > 0 ? upTo(60) : upTo(b == 0 || b == 1 ? PUMP_MOST[b] : 10);
-            CHECK.due(at + "pump " + a + " " + b + " " + c, real.pump(a, b, c), model.pump(a, b, c));
+            due(at + "pump " + a + " " + b + " " + c, real.pump(a, b, c), model.pump(a, b, c));
         } else if (kind < 22) {
             a = upTo(5);
             b = ofShow(a);
-            CHECK.due(at + "set " + a + " " + b, real.set(a, b), model.set(a, b));
+            due(at + "set " + a + " " + b, real.set(a, b), model.set(a, b));
         } else if (kind < 27) {
             a = upTo(random.nextBoolean() ? 140 : 300);
-            CHECK.due(at + "wind " + a, real.wind(a), model.wind(a));
+            due(at + "wind " + a, real.wind(a), model.wind(a));
         } else if (kind < 37) {
             a = soon();
             b = from(1, random.nextBoolean() ? 15 : 4095);
             c = upTo(1000);
-            CHECK.due(at + "cue " + a + " " + b + " " + c, real.cue(a, b, c), model.cue(a, b, c));
+            due(at + "cue " + a + " " + b + " " + c, real.cue(a, b, c), model.cue(a, b, c));
         } else if (kind < 40) {
-            a = upTo(Math.max(0, real.state(2) - 1));
-            CHECK.due(at + "remove " + a, real.remove(a), model.remove(a));
+            a = upTo(Math.max(0, state(2) - 1));
+            due(at + "remove " + a, real.remove(a), model.remove(a));
         } else if (kind < 44) {
-            a = upTo(Math.max(0, real.state(2) - 1));
+            a = upTo(Math.max(0, state(2) - 1));
             b = random.nextInt(8) == 0 ? from(-100000, 100000) : from(-9, 9);
-            CHECK.due(at + "move " + a + " " + b, real.move(a, b), model.move(a, b));
+            due(at + "move " + a + " " + b, real.move(a, b), model.move(a, b));
         } else {
             a = upTo(1);
             if (random.nextBoolean()) {
-                CHECK.due(at + "save " + a, real.save(a), model.save(a));
+                due(at + "save " + a, real.save(a), model.save(a));
             } else {
-                CHECK.due(at + "restore " + a, real.restore(a), model.restore(a));
+                due(at + "restore " + a, real.restore(a), model.restore(a));
             }
         }
     }
@@ -137,12 +149,12 @@ public final class RandomRunsTest {
         if (kind < 49) {
             int a = from(1, random.nextBoolean() ? 15 : 4095);
             int b = upTo(1000);
-            CHECK.due(at + "command " + a + " " + b, real.command(a, b), model.command(a, b));
+            due(at + "command " + a + " " + b, real.command(a, b), model.command(a, b));
         } else if (kind < 59) {
             int a = random.nextInt(20) == 0 ? from(1, 300) : from(1, 12);
-            CHECK.due(at + "tick " + a, real.tick(a), model.tick(a));
+            due(at + "tick " + a, real.tick(a), model.tick(a));
         } else if (random.nextInt(3) == 0) {
-            CHECK.due(at + "rewind", real.rewind(), model.rewind());
+            due(at + "rewind", real.rewind(), model.rewind());
         }
     }
 
@@ -151,38 +163,38 @@ public final class RandomRunsTest {
             int a = from(1, random.nextInt(10) == 0 ? 1000 : 60);
             int b = upTo(2);
             int c = upTo(4);
-            CHECK.due(at + "ahead " + a + " " + b + " " + c, real.ahead(a, b, c), model.ahead(a, b, c));
+            due(at + "ahead " + a + " " + b + " " + c, real.ahead(a, b, c), model.ahead(a, b, c));
         } else if (kind < 70) {
-            int a = upTo(Math.max(0, real.state(2) - 1));
+            int a = upTo(Math.max(0, state(2) - 1));
             int b = upTo(random.nextInt(10) == 0 ? 100 : 20);
             int c = from(1, random.nextInt(10) == 0 ? 300 : 40);
-            CHECK.due(at + "delay " + a + " " + b + " " + c, real.delay(a, b, c), model.delay(a, b, c));
+            due(at + "delay " + a + " " + b + " " + c, real.delay(a, b, c), model.delay(a, b, c));
         } else if (random.nextInt(3) == 0) {
             int a = from(1, random.nextInt(10) == 0 ? 100 : 30);
-            CHECK.due(at + "safeCut " + a, real.safeCut(a), model.safeCut(a));
+            due(at + "safeCut " + a, real.safeCut(a), model.safeCut(a));
         }
     }
 
     private void text(int kind, String at) {
         if (kind < 75) {
-            String cue = (real.state(9) > 0 ? "," : "") + number(9999) + ":" + letters() + "=" + number(1000);
+            String cue = (state(9) > 0 ? "," : "") + number(9999) + ":" + letters() + "=" + number(1000);
             for (int i = 0; i < cue.length(); i++) {
                 say(at, cue.charAt(i));
             }
         } else if (kind < 76) {
             say(at, random.nextInt(3) == 0 ? from(33, 126) : "0123456789:=,abcdefghijklm".charAt(random.nextInt(26)));
         } else if (kind < 79) {
-            CHECK.due(at + "fault", real.fault(), model.fault());
+            due(at + "fault", real.fault(), model.fault());
         } else if (kind < 83) {
             int a = random.nextBoolean() ? soon() : upTo(90000);
-            CHECK.due(at + "read " + a, real.read(a), model.read(a));
+            due(at + "read " + a, real.read(a), model.read(a));
         } else {
-            CHECK.due(at + "wipe", real.wipe(), model.wipe());
+            due(at + "wipe", real.wipe(), model.wipe());
         }
     }
 
     private void say(String at, int character) {
-        CHECK.due(at + "say " + character, real.say(character), model.say(character));
+        due(at + "say " + character, real.say(character), model.say(character));
     }
 
     private String number(int most) {
@@ -207,26 +219,26 @@ public final class RandomRunsTest {
         if (kind < 97) {
             int a = upTo(3);
             for (int what = 0; what < 3; what++) {
-                CHECK.due(at + "part " + a + " " + what, real.part(a, what), model.part(a, what));
+                due(at + "part " + a + " " + what, real.part(a, what), model.part(a, what));
             }
             for (int what = 0; what < 5; what++) {
-                CHECK.due(at + "pressure " + a + " " + what, real.pressure(a, what), model.pressure(a, what));
+                due(at + "pressure " + a + " " + what, real.pressure(a, what), model.pressure(a, what));
             }
             a = upTo(11);
             for (int what = 6; what < 12; what++) {
-                CHECK.due(at + "spray " + a + " " + what, real.spray(a, what), model.spray(a, what));
+                due(at + "spray " + a + " " + what, real.spray(a, what), model.spray(a, what));
             }
             for (int what = 0; what < 10; what++) {
-                CHECK.due(at + "state " + what, real.state(what), model.state(what));
+                due(at + "state " + what, real.state(what), model.state(what));
             }
         }
         int a = upTo(3);
-        CHECK.due(at + "load " + a, real.load(a), model.load(a));
-        CHECK.due(at + "meanHeight", real.meanHeight(), model.meanHeight());
+        due(at + "load " + a, real.load(a), model.load(a));
+        due(at + "meanHeight", real.meanHeight(), model.meanHeight());
         int b = upTo(12);
-        CHECK.due(at + "spray " + a + " " + b, real.spray(a, b), model.spray(a, b));
-        CHECK.due(at + "pressure " + a + " " + b, real.pressure(a, b), model.pressure(a, b));
-        CHECK.due(at + "state " + b, real.state(b), model.state(b));
-        CHECK.due(at + "part " + b + " " + a, real.part(b, a), model.part(b, a));
+        due(at + "spray " + a + " " + b, real.spray(a, b), model.spray(a, b));
+        due(at + "pressure " + a + " " + b, real.pressure(a, b), model.pressure(a, b));
+        due(at + "state " + b, real.state(b), model.state(b));
+        due(at + "part " + b + " " + a, real.part(b, a), model.part(b, a));
     }
 }

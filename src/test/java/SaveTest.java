@@ -2,6 +2,7 @@
 public final class SaveTest {
     private static final int[] ODD = {Integer.MIN_VALUE, -1, 2, Integer.MAX_VALUE};
     private static final Check CHECK = new Check();
+    private static final Edges EDGES = new Edges(CHECK);
 
     public static void main(String[] args) {
         errors();
@@ -49,74 +50,9 @@ public final class SaveTest {
         CHECK.due("slots are not restored", x.restore(1), 8);
     }
 
-    private static FountainShow busy() {
-        FountainShow x = new FountainShow();
-        x.setUp(5);
-        for (int n = 0; n < 5; n++) {
-            x.nozzle(n, FountainShow.SIZE, 11 + n);
-            x.nozzle(n, FountainShow.HEIGHT, 4000 + n);
-            x.nozzle(n, FountainShow.LAG, 10 * n);
-            x.nozzle(n, FountainShow.SPEED, 100 + n);
-            x.nozzle(n, FountainShow.PUMP, n % 3);
-            x.nozzle(n, FountainShow.DRIFT, 90 + n);
-        }
-        for (int p = 0; p < 3; p++) {
-            x.pump(p, FountainShow.CAPACITY, 5 + p);
-            x.pump(p, FountainShow.RISE, 2 + p);
-        }
-        x.set(FountainShow.FILTER, 5);
-        x.set(FountainShow.FIRST, 61);
-        x.set(FountainShow.SECOND, 120);
-        x.set(FountainShow.CUT, 650);
-        x.set(FountainShow.HOLD, 20);
-        x.set(FountainShow.SPLASH, 50);
-        x.wind(70);
-        for (int i = 0; i < 20; i++) {
-            x.cue(7 * i, 1 + i, 1000 - 40 * i);
-        }
-        x.tick(80);
-        x.wind(40);
-        x.tick(5);
-        return x;
-    }
-
-    private static int[] all(FountainShow x) {
-        int[] found = new int[600];
-        int at = 0;
-        for (int i = 0; i < 16; i++) {
-            found[at++] = x.state(i);
-        }
-        for (int n = 0; n < x.state(1); n++) {
-            for (int i = 0; i < 12; i++) {
-                found[at++] = x.spray(n, i);
-            }
-        }
-        for (int p = 0; p < 3; p++) {
-            for (int i = 0; i < 5; i++) {
-                found[at++] = x.pressure(p, i);
-            }
-        }
-        for (int c = 0; c < x.state(2); c++) {
-            for (int i = 0; i < 3; i++) {
-                found[at++] = x.part(c, i);
-            }
-        }
-        return found;
-    }
-
-    private static void same(String when, int[] got, int[] want) {
-        for (int i = 0; i < want.length; i++) {
-            CHECK.due(when + ", number " + i, got[i], want[i]);
-        }
-    }
-
     private static void everythingComesBack() {
-        FountainShow x = busy();
-        int[] then = all(x);
-        CHECK.isTrue("calm", x.state(6) > 0);
-        x.save(0);
-        x.tick(60);
-        int[] later = all(x);
+        FountainShow x = Shows.busy();
+        x.save(1);
         x.setUp(12);
         for (int p = 0; p < 3; p++) {
             x.pump(p, FountainShow.CAPACITY, 2000);
@@ -124,14 +60,18 @@ public final class SaveTest {
         x.wind(300);
         x.command(4095, 1000);
         x.tick(100);
-        CHECK.due("restore", x.restore(0), 85);
-        same("restored", all(x), then);
-        x.tick(60);
-        same("the same goes on", all(x), later);
-        x.rewind();
-        x.restore(0);
-        same("restored behind rewind", all(x), then);
-        x.tick(60);
-        same("the same goes on behind rewind", all(x), later);
+        CHECK.due("restore", x.restore(1), 50);
+        EDGES.same("restored", x, saved());
+        FountainShow y = saved();
+        y.rewind();
+        y.tick(70);
+        CHECK.due("restore behind rewind", y.restore(1), 50);
+        EDGES.same("restored behind rewind", y, saved());
+    }
+
+    private static FountainShow saved() {
+        FountainShow x = Shows.busy();
+        x.save(1);
+        return x;
     }
 }

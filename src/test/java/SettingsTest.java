@@ -15,6 +15,7 @@ public final class SettingsTest {
     public static void main(String[] args) {
         newObject();
         setUp();
+        setUpAgain();
         nozzle();
         pump();
         set();
@@ -67,6 +68,12 @@ public final class SettingsTest {
         for (int n = 0; n < 12; n++) {
             CHECK.due("no command is left " + n, x.spray(n, 11), 0);
         }
+    }
+
+    private static void setUpAgain() {
+        FountainShow x = new FountainShow();
+        x.setUp(12);
+        x.tick(60);
         disturb(x);
         CHECK.due("setUp out of range changes nothing", x.setUp(13), -2);
         CHECK.due("state 0 stays", x.state(0), 120);

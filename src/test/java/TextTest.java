@@ -12,10 +12,8 @@ public final class TextTest {
     }
 
     private static void write(FountainShow x, String text) {
-        x.wipe();
-        for (int i = 0; i < text.length(); i++) {
-            CHECK.due("say in " + text, x.say(text.charAt(i)), i + 1);
-        }
+        Shows.write(x, text);
+        CHECK.due("length of " + text, x.state(9), text.length());
     }
 
     private static void say() {

@@ -180,18 +180,8 @@ public final class TimeTest {
         }
     }
 
-    private static FountainShow quick(int nozzles) {
-        FountainShow x = new FountainShow();
-        x.setUp(nozzles);
-        for (int i = 0; i < nozzles; i++) {
-            x.nozzle(i, FountainShow.LAG, 0);
-            x.nozzle(i, FountainShow.SPEED, 1000);
-        }
-        return x;
-    }
-
     private static void pumps() {
-        FountainShow x = quick(1);
+        FountainShow x = Shows.quick(1);
         x.nozzle(0, FountainShow.SIZE, 100);
         x.pump(0, FountainShow.CAPACITY, 55);
         x.command(1, 1000);
@@ -226,7 +216,7 @@ public final class TimeTest {
     }
 
     private static void shares() {
-        FountainShow x = quick(12);
+        FountainShow x = Shows.quick(12);
         for (int i = 0; i < 12; i++) {
             x.nozzle(i, FountainShow.SIZE, 100);
         }
@@ -263,7 +253,7 @@ public final class TimeTest {
     }
 
     private static void heights() {
-        FountainShow x = quick(1);
+        FountainShow x = Shows.quick(1);
         x.nozzle(0, FountainShow.HEIGHT, 5000);
         x.command(1, 1000);
         x.tick(1);
@@ -422,7 +412,7 @@ public final class TimeTest {
     }
 
     private static void cut() {
-        FountainShow x = quick(2);
+        FountainShow x = Shows.quick(2);
         x.nozzle(1, FountainShow.SPEED, 300);
         x.set(FountainShow.FILTER, 1);
         x.set(FountainShow.CUT, 400);
@@ -450,7 +440,7 @@ public final class TimeTest {
     }
 
     private static void wet() {
-        FountainShow x = quick(3);
+        FountainShow x = Shows.quick(3);
         x.set(FountainShow.FILTER, 1);
         x.set(FountainShow.FIRST, 300);
         x.set(FountainShow.SECOND, 300);

@@ -21,16 +21,6 @@ public final class WhatIfTest {
         CHECK.end();
     }
 
-    private static FountainShow quick(int nozzles) {
-        FountainShow x = new FountainShow();
-        x.setUp(nozzles);
-        for (int i = 0; i < nozzles; i++) {
-            x.nozzle(i, FountainShow.LAG, 0);
-            x.nozzle(i, FountainShow.SPEED, 1000);
-        }
-        return x;
-    }
-
     private static void aheadErrors() {
         FountainShow x = new FountainShow();
         for (int odd : ODD) {
@@ -51,7 +41,7 @@ public final class WhatIfTest {
     }
 
     private static void ahead() {
-        FountainShow x = quick(2);
+        FountainShow x = Shows.quick(2);
         x.set(FountainShow.FILTER, 1);
         x.wind(70);
         x.set(FountainShow.SPLASH, 5);
@@ -88,7 +78,7 @@ public final class WhatIfTest {
     }
 
     private static void aheadOfPumps() {
-        FountainShow x = quick(3);
+        FountainShow x = Shows.quick(3);
         for (int i = 0; i < 3; i++) {
             x.nozzle(i, FountainShow.PUMP, i);
             x.pump(i, FountainShow.CAPACITY, i * 6);
@@ -130,7 +120,7 @@ public final class WhatIfTest {
     }
 
     private static void delay() {
-        FountainShow x = quick(2);
+        FountainShow x = Shows.quick(2);
         x.pump(0, FountainShow.CAPACITY, 10);
         x.cue(5, 1, 1000);
         x.cue(8, 1, 0);
@@ -151,7 +141,7 @@ public final class WhatIfTest {
     }
 
     private static void delayOrder() {
-        FountainShow x = quick(1);
+        FountainShow x = Shows.quick(1);
         x.pump(0, FountainShow.CAPACITY, 5);
         x.cue(5, 1, 1000);
         x.cue(5, 1, 400);
@@ -165,7 +155,7 @@ public final class WhatIfTest {
     }
 
     private static void delayEnd() {
-        FountainShow x = quick(1);
+        FountainShow x = Shows.quick(1);
         x.pump(0, FountainShow.CAPACITY, 0);
         for (int i = 0; i < 49; i++) {
             x.tick(2000);
@@ -191,7 +181,7 @@ public final class WhatIfTest {
     }
 
     private static void safeCut() {
-        FountainShow x = quick(1);
+        FountainShow x = Shows.quick(1);
         x.set(FountainShow.FILTER, 1);
         x.set(FountainShow.SPLASH, 4);
         x.wind(100);
@@ -217,7 +207,7 @@ public final class WhatIfTest {
         CHECK.due("too slow", x.safeCut(1), -6);
         x.set(FountainShow.SPLASH, 5000);
         CHECK.due("never wet", x.safeCut(100), 1000);
-        FountainShow y = quick(1);
+        FountainShow y = Shows.quick(1);
         y.set(FountainShow.SPLASH, 0);
         y.set(FountainShow.FILTER, 1);
         y.wind(70);
@@ -225,7 +215,7 @@ public final class WhatIfTest {
         CHECK.due("no stage, no help", y.safeCut(100), -6);
         y.wind(0);
         CHECK.due("no stage, none needed", y.safeCut(100), 1000);
-        FountainShow z = quick(1);
+        FountainShow z = Shows.quick(1);
         z.set(FountainShow.SPLASH, 0);
         z.set(FountainShow.FILTER, 1);
         z.nozzle(0, FountainShow.HEIGHT, 5000);
@@ -247,7 +237,7 @@ public final class WhatIfTest {
 
     /** The stage 1 ends in the second tick; the nozzle opens from the CUT by its speed, and 999 is the most. */
     private static void safeCutOfNothing() {
-        FountainShow x = quick(1);
+        FountainShow x = Shows.quick(1);
         x.set(FountainShow.FILTER, 1);
         x.set(FountainShow.HOLD, 2);
         x.nozzle(0, FountainShow.HEIGHT, 5000);
@@ -269,7 +259,7 @@ public final class WhatIfTest {
 
     /** The height of the last of twelve nozzles. */
     private static void aheadOfAll() {
-        FountainShow x = quick(12);
+        FountainShow x = Shows.quick(12);
         x.cue(1, 2048, 1000);
         CHECK.due("the last nozzle", x.ahead(2, 0, 4), 1000);
         CHECK.due("its demand", x.ahead(2, 0, 0), 10000);
@@ -277,7 +267,7 @@ public final class WhatIfTest {
 
     /** Two nozzles share a pump: a lesser CUT for the one leaves more for the other one, which is not cut by it. */
     private static void safeCutIsNotMonotone() {
-        FountainShow x = quick(2);
+        FountainShow x = Shows.quick(2);
         x.set(FountainShow.FILTER, 1);
         x.set(FountainShow.SPLASH, 24);
         x.wind(100);
@@ -315,7 +305,7 @@ public final class WhatIfTest {
 
     /** The goals that are not beyond a CUT do not feel it; what they do later counts all the same. */
     private static void safeCutSkips() {
-        FountainShow x = quick(2);
+        FountainShow x = Shows.quick(2);
         x.set(FountainShow.FILTER, 1);
         x.set(FountainShow.SPLASH, 3);
         x.wind(100);
