@@ -184,7 +184,7 @@ public final class SaveEdgesTest {
             x.command(31, 1000);
             x.nozzle(4, FountainShow.SIZE, 100);
             x.pump(2, FountainShow.CAPACITY, 2000);
-            x.set(FountainShow.SPLASH, 5000);
+            x.set(FountainShow.SPLASH, 0);
             x.wind(300);
             x.move(0, 100);
             x.cue(55, 31, 999);

@@ -34,6 +34,7 @@ public final class SettingsEdgesTest {
         windFromZeroToThreeHundred();
         setUpAnswersTheNumberBefore();
         setUpMakesAllInitial();
+        setUpStopsTheWind();
         setUpLeavesNoCues();
         setUpGoesToTheTimeZero();
         setUpForgetsLaggingCommands();
@@ -189,6 +190,7 @@ public final class SettingsEdgesTest {
         CHECK.due("measured", x.state(4), 0);
         CHECK.due("stage", x.state(5), 0);
         CHECK.due("calm count", x.state(6), 0);
+        CHECK.due("wet ticks", x.state(7), 0);
         x.set(FountainShow.FILTER, 2);
         x.wind(2);
         x.tick(1);
@@ -221,11 +223,30 @@ public final class SettingsEdgesTest {
         for (int nozzles : Edges.inside(1, 12)) {
             FountainShow x = Shows.busy();
             x.setUp(nozzles);
+            for (int what : new int[] {0, 2, 3, 4, 5, 6, 7}) {
+                CHECK.due("set up " + nozzles + ", state " + what, x.state(what), 0);
+            }
             FountainShow fresh = new FountainShow();
             fresh.setUp(nozzles);
             Shows.write(fresh, "12:bd=");
             EDGES.sameLines("set up " + nozzles, Shows.picture(x), Shows.picture(fresh));
         }
+    }
+
+    /** F as well is 0 then, neither below nor above. */
+    private static void setUpStopsTheWind() {
+        FountainShow x = Shows.busy();
+        x.setUp(1);
+        x.set(FountainShow.FILTER, 2);
+        x.wind(2);
+        x.tick(1);
+        CHECK.due("not below", x.state(4), 1);
+        x.setUp(1);
+        x.set(FountainShow.FILTER, 5);
+        x.wind(111);
+        x.tick(18);
+        // From F = 1 it would be 109.
+        CHECK.due("not above", x.state(4), 108);
     }
 
     /** "there are no cues": of 60 none is left, and there is room for 60. */

@@ -41,6 +41,7 @@ public final class TickEdgesTest {
         wetByAnyNozzle();
         shortOfAnyPump();
         rewindAtTheEndsOfTime();
+        rewindMakesCountsInitial();
         rewindLeavesNoTicks();
         rewindBringsCuesBack();
         CHECK.end();
@@ -463,7 +464,7 @@ public final class TickEdgesTest {
     /** "HEIGHT * v * v / 1000000, with v as its flow / SIZE": each division just below and at a whole number. */
     private static void heightRoundedDown() {
         int[][] heightsAndCommands = {{1000, 31, 0}, {1000, 32, 1}, {1, 999, 0}, {1, 1000, 1}, {5000, 999, 4990},
-            {5000, 1000, 5000}, {4999, 1000, 4999}, {5000, 14, 0}, {5000, 15, 1}};
+            {5000, 1000, 5000}, {4999, 1000, 4999}, {5000, 14, 0}, {5000, 15, 1}, {4987, 920, 4220}};
         for (int[] row : heightsAndCommands) {
             FountainShow x = one();
             x.nozzle(0, FountainShow.HEIGHT, row[0]);
@@ -522,7 +523,7 @@ public final class TickEdgesTest {
     private static void driftRoundedDown() {
         int[][] rows = {{999, 1, 100, 0}, {1000, 1, 100, 1}, {1001, 1, 100, 1}, {1000, 1, 99, 0}, {1000, 1, 101, 1},
             {1999, 1, 100, 1}, {2000, 1, 100, 2}, {1000, 0, 100, 0}, {1000, 99, 100, 99}, {1000, 100, 100, 100},
-            {1000, 100, 0, 0}, {1000, 100, 1, 1}, {1, 100, 299, 0}};
+            {1000, 100, 0, 0}, {1000, 100, 1, 1}, {1, 100, 299, 0}, {4999, 97, 53, 256}};
         for (int[] row : rows) {
             FountainShow x = blown(row[0], row[1], row[2]);
             x.tick(1);
@@ -614,6 +615,35 @@ public final class TickEdgesTest {
             CHECK.due("once more", x.rewind(), 0);
             CHECK.due("ticks are possible", x.tick(2000), 2000);
         }
+    }
+
+    /** "commands, openings, .., the filtered wind, the stage, the calm count and all counts are as initially". */
+    private static void rewindMakesCountsInitial() {
+        FountainShow x = Shows.busy();
+        x.rewind();
+        for (int what : new int[] {0, 4, 5, 6, 7}) {
+            CHECK.due("state " + what, x.state(what), 0);
+        }
+        for (int n = 0; n < 5; n++) {
+            for (int what = 6; what < 12; what++) {
+                CHECK.due("spray " + n + " " + what, x.spray(n, what), 0);
+            }
+        }
+        for (int p = 0; p < 3; p++) {
+            for (int what = 2; what < 5; what++) {
+                CHECK.due("pressure " + p + " " + what, x.pressure(p, what), 0);
+            }
+        }
+        x.set(FountainShow.FILTER, 2);
+        x.wind(2);
+        x.tick(1);
+        CHECK.due("F was not below 0", x.state(4), 1);
+        x.rewind();
+        x.set(FountainShow.FILTER, 5);
+        x.wind(111);
+        x.tick(18);
+        // From F = 1 it would be 109.
+        CHECK.due("F was not above 0", x.state(4), 108);
     }
 
     /** "and there were no ticks": for LAG 1 and 50, and for the demand of the latest tick. */

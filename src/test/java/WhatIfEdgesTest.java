@@ -17,6 +17,7 @@ public final class WhatIfEdgesTest {
         firstShortTick();
         wetInTheseTicks();
         greatestHeightOfTheseTicks();
+        nothingAhead();
         timeOfACopyIsNotLimited();
         nothingOfACopyStays();
         whichCueToDelay();
@@ -196,6 +197,20 @@ public final class WhatIfEdgesTest {
             CHECK.due("delay, from " + time, x.delay(0, 100, 50), 0);
             CHECK.due("delay of no use, from " + time, x.delay(0, 100, 51), NONE);
         }
+    }
+
+    /** Without a demand, and without a height, the greatest ones are 0. */
+    private static void nothingAhead() {
+        int[] due = {0, 0, NONE, 0, 0};
+        for (int what = 0; what < 5; what++) {
+            CHECK.due("nothing, what " + what, new FountainShow().ahead(1000, 2, what), due[what]);
+        }
+        FountainShow x = Shows.small(1);
+        x.command(1, 32);
+        CHECK.due("the least demand", x.ahead(1, 0, 0), 32);
+        CHECK.due("the least height", x.ahead(1, 0, 4), 1);
+        x.command(1, 31);
+        CHECK.due("no height", x.ahead(1, 0, 4), 0);
     }
 
     /** "everything happens in a copy": the same twice, and nothing of it stays. */
