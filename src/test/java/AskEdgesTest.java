@@ -17,6 +17,7 @@ public final class AskEdgesTest {
         ticksInWhichItWasShort();
         loadOfNoSuchPump();
         loadWithoutCapacity();
+        loadIsNotOfTheDemand();
         loadAtTheEnds();
         loadIsAFloat();
         meanOfOne();
@@ -176,6 +177,19 @@ public final class AskEdgesTest {
         CHECK.due("with the least", x.load(0), 10.0);
         x.pump(0, FountainShow.CAPACITY, 2000);
         CHECK.due("with the most", x.load(0), (double) (10000f / 2000000f));
+    }
+
+    /** "Returns its flow": not the demand, below which it is while it rises, and above which while it falls. */
+    private static void loadIsNotOfTheDemand() {
+        FountainShow x = Shows.quick(1);
+        x.pump(0, FountainShow.RISE, 2);
+        x.command(1, 1000);
+        x.tick(3);
+        CHECK.due("rising", x.load(0), (double) (6000f / 100000f));
+        x.tick(2);
+        x.command(1, 100);
+        x.tick(1);
+        CHECK.due("falling", x.load(0), (double) (8000f / 100000f));
     }
 
     /** One below all that it can, all of it. */

@@ -150,6 +150,7 @@ public final class SaveEdgesTest {
         CHECK.due("full", x.state(9), 80);
         CHECK.due("no more", x.say('1'), FountainShow.TOO_MANY);
         x.save(0);
+        CHECK.due("full behind save", x.state(9), 80);
         x.wipe();
         x.restore(0);
         CHECK.due("empty", x.state(9), 0);

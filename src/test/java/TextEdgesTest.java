@@ -34,6 +34,7 @@ public final class TextEdgesTest {
         faultOfAFullText();
         firstOfManyFaults();
         readLater();
+        readAtAnotherTime();
         latestCueOfAText();
         readTheLastPlaces();
         readFromAFullPad();
@@ -325,6 +326,22 @@ public final class TextEdgesTest {
             CHECK.due("read " + later, x.read(later), 1);
             CHECK.due("time with " + later, x.part(0, 0), 5 + later);
         }
+    }
+
+    /** "what is added to their times": the present time is not; what has passed then is added too. */
+    private static void readAtAnotherTime() {
+        FountainShow x = Shows.at(20);
+        for (int later : new int[] {0, 12, 13, 14}) {
+            Shows.write(x, "7:a=" + later);
+            CHECK.due("read " + later, x.read(later), 1);
+        }
+        int[] times = {7, 19, 20, 21};
+        for (int i = 0; i < 4; i++) {
+            CHECK.due("time of the cue " + i, x.part(i, 0), times[i]);
+        }
+        CHECK.due("the next one", x.state(8), 2);
+        x.tick(1);
+        CHECK.due("it is carried out", x.spray(0, 6), 13);
     }
 
     /** The least and the greatest time of all. */

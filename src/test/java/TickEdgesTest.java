@@ -35,6 +35,7 @@ public final class TickEdgesTest {
         speedRoundedDown();
         greatestHeightIsKept();
         driftRoundedDown();
+        driftInTheMeasuredWind();
         greatestDrift();
         shortIfDemandIsGreater();
         wetIfDriftIsGreater();
@@ -529,6 +530,19 @@ public final class TickEdgesTest {
             x.tick(1);
             CHECK.due("height " + row[0] + ", DRIFT " + row[1] + ", wind " + row[2], x.spray(0, 10), row[3]);
         }
+    }
+
+    /** "(its height) * m * DRIFT / 100000": m lags behind the wind. */
+    private static void driftInTheMeasuredWind() {
+        FountainShow x = blown(1000, 100, 200);
+        x.set(FountainShow.FILTER, 2);
+        for (int drift : new int[] {100, 150, 175}) {
+            x.tick(1);
+            CHECK.due("drift in a rising wind", x.spray(0, 10), drift);
+        }
+        x.wind(0);
+        x.tick(1);
+        CHECK.due("drift in a falling wind", x.spray(0, 10), 87);
     }
 
     /** The greatest numbers of all: a wind of 300 is always one of the stage 2, in which the nozzle just closes. */

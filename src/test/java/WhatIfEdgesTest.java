@@ -38,6 +38,8 @@ public final class WhatIfEdgesTest {
         leastSafeCuts();
         noSafeCut();
         safeCutInTheStages();
+        safeCutInFallingStages();
+        safeCutInRisingStages();
         safeCutFarFromTheStart();
         CHECK.end();
     }
@@ -217,8 +219,8 @@ public final class WhatIfEdgesTest {
     private static void nothingOfACopyStays() {
         FountainShow x = Shows.busy();
         FountainShow twin = Shows.busy();
-        for (int i = 0; i < 2; i++) {
-            x.ahead(1000, 0, i);
+        for (int what = 0; what < 5; what++) {
+            x.ahead(1000, 0, what);
             x.delay(7, 100, 300);
             x.safeCut(100);
         }
@@ -461,6 +463,40 @@ public final class WhatIfEdgesTest {
         x.nozzle(0, FountainShow.SPEED, 1);
         x.wind(150);
         CHECK.due("stage 2, closing", x.safeCut(10), NONE);
+    }
+
+    /** The stages of the next ticks count, not that of the present: from 2 to 1, and from 1 to 0. */
+    private static void safeCutInFallingStages() {
+        FountainShow x = wetFrom(0);
+        x.set(FountainShow.HOLD, 3);
+        x.set(FountainShow.SPLASH, 29);
+        x.wind(150);
+        x.tick(1);
+        x.wind(120);
+        CHECK.due("stage 2", x.state(5), 2);
+        CHECK.due("still 2", x.safeCut(2), 1000);
+        // A height of 250 drifts by 30: v = 500.
+        CHECK.due("then 1", x.safeCut(3), 499);
+        x.set(FountainShow.CUT, 499);
+        x.tick(3);
+        x.wind(60);
+        CHECK.due("stage 1", x.state(5), 1);
+        // A height of 500 drifts by 30: v = 708 (501.264).
+        CHECK.due("still 1", x.safeCut(2), 707);
+        CHECK.due("then 0", x.safeCut(3), NONE);
+    }
+
+    /** From 0 to 1, and from 1 to 2: the measured wind is 79, 118, 138, 148 and 153. */
+    private static void safeCutInRisingStages() {
+        FountainShow x = wetFrom(1);
+        x.set(FountainShow.FILTER, 2);
+        x.set(FountainShow.SPLASH, 29);
+        x.wind(158);
+        // The least heights that drift by 30: 255 (v = 505), 218 (v = 467), 203 (v = 451), none in the stage 2.
+        int[] cuts = {1000, 504, 466, 450, 450, 450};
+        for (int i = 0; i < cuts.length; i++) {
+            CHECK.due("in " + (i + 1), x.safeCut(i + 1), cuts[i]);
+        }
     }
 
     /** What was wet does not count, and the present CUT neither. */

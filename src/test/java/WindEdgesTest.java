@@ -6,6 +6,7 @@ public final class WindEdgesTest {
         measuredWindRoundedDown();
         leastAndGreatestFilter();
         filterRoundedDown();
+        stagesFollowTheMeasuredWind();
         firstIsAtLeast();
         secondIsAtLeast();
         secondBeforeFirst();
@@ -87,6 +88,20 @@ public final class WindEdgesTest {
         x.tick(1);
         // Rounded toward 0, it would be 1024.
         CHECK.due("F = 1018", x.state(4), 0);
+    }
+
+    /** "With m as the measured wind": not the wind itself, which is beyond FIRST and SECOND, and at 0, before it. */
+    private static void stagesFollowTheMeasuredWind() {
+        FountainShow x = unfiltered(80, 150, 1);
+        x.set(FountainShow.FILTER, 2);
+        // m = 79, 118, 138, 148, 153; then 76
+        blow(x, 158, 0, 0);
+        blow(x, 158, 1, 0);
+        blow(x, 158, 1, 0);
+        blow(x, 158, 1, 0);
+        blow(x, 158, 2, 0);
+        x.set(FountainShow.SECOND, 86);
+        blow(x, 0, 2, 0);
     }
 
     /** "if m is at least FIRST and the stage is 0". */
